@@ -354,9 +354,7 @@ public final class JetWaltz {
 
     public int leadFor(int jet, int height) throws IndexOutOfBoundsException, IllegalArgumentException {
         Pump pump = jetNumbered(jet).pump;
-        if (height < 1 || height > MOST_HEIGHT) {
-            throw new IllegalArgumentException("height is not 1 to 60");
-        }
+        // It refuses the same HEIGHTS as this call does.
         int setting = settingFor(jet, height);
         if (setting == NONE || pump.isTripped) {
             return NONE;

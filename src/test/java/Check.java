@@ -28,17 +28,24 @@ final class Check {
         count(got.equals(want), what, got, want);
     }
 
-    /** The call throws exactly this, and what the object shows is the same before and after it. */
+    /** The call throws exactly this by itself, and the object shows the same before and after it. */
     void refused(String what, JetWaltz waltz, Class<?> want, Runnable call) {
         long before = waltz.digest();
         String got = "nothing";
         try {
             call.run();
         } catch (RuntimeException e) {
-            got = e.getClass().getName();
+            got = nameOf(e);
         }
         count(got.equals(want.getName()), what + " throws", got, want.getName());
         due(what + " changes nothing", waltz.digest(), before);
+    }
+
+    /** Also tells a throw that is not of a throw statement, but of the machine or of its library. */
+    static String nameOf(RuntimeException e) {
+        StackTraceElement[] trace = e.getStackTrace();
+        boolean isLibrary = trace.length > 0 && trace[0].getClassName().startsWith("j");
+        return e.getClass().getName() + (isLibrary ? " in " + trace[0] : "");
     }
 
     void end() {

@@ -173,7 +173,7 @@ public final class RandomRunsTest {
         try {
             return String.valueOf(supplier.get());
         } catch (RuntimeException e) {
-            return "throws " + e.getClass().getName();
+            return "throws " + Check.nameOf(e);
         }
     }
 }

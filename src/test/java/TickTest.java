@@ -5,6 +5,8 @@ public final class TickTest {
     public static void main(String[] args) {
         drivesAndValvesFollow();
         waterFallsWhereItWasThrownTo();
+        airTimes();
+        jetsThrowTogether();
         placesEnd();
         windIsThatOfTheThrow();
         waterFallsBeforeItIsThrown();
@@ -51,6 +53,60 @@ public final class TickTest {
         }
         CHECK.due("LOST", w.many(7), 0);
         CHECK.due("thrown", w.ofJet(0, 10), 2 + 4 + 6 + 7 * 8);
+    }
+
+    private static void airTimes() {
+        // With SETTING 1, NOZZLE 1 and VALVE 4: HEIGHT is POWER * 10 / 24.
+        int[][] rows = {{22, 9, 2}, {24, 10, 3}, {46, 19, 3}, {48, 20, 4}, {43, 17, 3}, {44, 18, 3}, {60, 25, 4}};
+        for (int[] row : rows) {
+            JetWaltz w = Basins.oneJet(row[0], 1, 0);
+            w.setting(0, 1);
+            w.valve(0, 4);
+            w.pass(20);
+            w.valve(0, 3);
+            CHECK.due("HEIGHT of POWER " + row[0], w.ofJet(0, 8), row[1]);
+            for (int ticks = 1; ticks <= 8; ticks++) {
+                CHECK.due("HEIGHT " + row[1] + ": falls(" + ticks + ")", w.falls(ticks), ticks <= row[2] ? 4 : 0);
+            }
+        }
+        // VALVE 4, NOZZLE 1: PRESSURE is HEIGHT, 10 * DRIVE * POWER / 24.
+        int[][] high = {{3, 48, 60, 8}, {4, 36, 60, 8}, {3, 47, 58, 7}, {3, 40, 50, 7}, {3, 39, 48, 6}};
+        for (int[] row : high) {
+            JetWaltz w = Basins.oneJet(row[1], 1, 0);
+            w.setting(0, row[0]);
+            w.valve(0, 4);
+            w.pass(20);
+            CHECK.due("HEIGHT of POWER " + row[1], w.ofJet(0, 8), row[2]);
+            CHECK.due("HEIGHT " + row[2] + ": falls last", w.falls(row[3]), 4);
+            CHECK.due("HEIGHT " + row[2] + ": in the air", w.many(6), 4 * row[3]);
+        }
+    }
+
+    /** What several JETS throw in one tick, or one JET in several, falls in one tick. */
+    private static void jetsThrowTogether() {
+        int[] places = {10, 0, 19};
+        int[] winds = {0, -1, 4};
+        int[] lost = {0, 7, 7};
+        int[] wet = {0, 7, 0};
+        for (int k = 0; k < 3; k++) {
+            JetWaltz w = new JetWaltz();
+            w.pump(60);
+            w.jet(0, places[k], 3, 0);
+            w.jet(0, places[k], 4, 0);
+            w.wind(winds[k], winds[k] == 4 ? 2 : 0);
+            w.setting(0, 1);
+            w.valve(0, 1);
+            w.valve(1, 1);
+            w.pass(1);
+            w.valve(0, 0);
+            w.valve(1, 0);
+            CHECK.due("thrown together", w.falls(2), 7);
+            CHECK.due("WATER before", w.many(5), 2993);
+            CHECK.due("came down together", w.pass(2), 7);
+            CHECK.due("LOST together", w.many(7), lost[k]);
+            CHECK.due("WET together", w.many(9), wet[k]);
+            CHECK.due("WATER behind", w.many(5), 3000 - lost[k]);
+        }
     }
 
     /** Water thrown without SLANT in tick 1, at a HEIGHT below 10, falls in tick 3 as far off as WIND is. */

@@ -5,6 +5,7 @@ public final class WouldBeTest {
     public static void main(String[] args) {
         promise22HeightIn();
         promise22HeightInWithSteps();
+        promise22HeightInWithFaults();
         promise22HeightInRefuses();
         promise23SettingFor();
         promise23SettingForAsSet();
@@ -53,6 +54,26 @@ public final class WouldBeTest {
         CHECK.due("before it is TRIPPED", w.heightIn(9, 1), 60);
         CHECK.due("as it is TRIPPED", w.heightIn(9, 2), 0);
         CHECK.due("and now", w.ofJet(9, 8), 60);
+    }
+
+    private static void promise22HeightInWithFaults() {
+        JetWaltz w = Basins.oneJet(30, 2, 0);
+        w.setting(0, 3);
+        w.valve(0, 4);
+        w.pass(1);
+        w.fault(0, true, false);
+        // A STUCK VALVE at 1: PRESSURE 900 / 22 = 40.
+        CHECK.due("STUCK: heightIn(0, 9)", w.heightIn(0, 9), 10);
+        w.fault(0, false, false);
+        CHECK.due("no more: heightIn(0, 9)", w.heightIn(0, 9), 32);
+        JetWaltz off = Basins.tripped();
+        off.fill(5000);
+        off.figure();
+        off.step(0, 0, 1023, 20);
+        off.call(0, 0);
+        CHECK.due("TRIPPED: heightIn(9, 9)", off.heightIn(9, 9), 0);
+        off.reset(0);
+        CHECK.due("reset: heightIn(9, 9)", off.heightIn(9, 9), 60);
     }
 
     private static void promise22HeightInRefuses() {
@@ -335,6 +356,16 @@ public final class WouldBeTest {
         w.valve(2, 3);
         w.pass(5);
         CHECK.due("digest() is the sum of what is asked", w.digest(), digestOf(w));
+        for (int power = 10; power <= 60; power++) {
+            JetWaltz one = Basins.oneJet(power, 3, 1);
+            one.wind(4, 1);
+            one.setting(0, 4);
+            one.valve(0, 1 + power % 4);
+            for (int ticks = 1; ticks <= 4; ticks++) {
+                one.pass(ticks);
+                CHECK.due("digest() with POWER " + power, one.digest(), digestOf(one));
+            }
+        }
         JetWaltz off = Basins.tripped();
         off.figure();
         off.call(0, 0);
