@@ -86,7 +86,8 @@ public final class JetWaltz {
             throws IndexOutOfBoundsException, IllegalArgumentException, IllegalStateException {
         Figure its = figureNumbered(figure);
         if (tick < 0 || tick > 99 || jets < 1 || jets > 1023 || !isValue(value)) {
-            throw new IllegalArgumentException("tick is not 0 to 99, jets not 1 to 1023, or value not 0 to 6 or 10 to 20");
+            throw new IllegalArgumentException(
+                    "tick is not 0 to 99, jets not 1 to 1023, or value not 0 to 6 or 10 to 20");
         }
         if (its.steps.size() >= MOST_STEPS) {
             throw new IllegalStateException("the FIGURE has 8 STEPS");
@@ -186,7 +187,7 @@ public final class JetWaltz {
         if (number >= MOST_CALLS) {
             throw new IllegalStateException("there were 20 CALLS");
         }
-        Call made = new Call(its, shift, show.now);
+        Call made = new Call(its.stepsNow(), shift, show.now);
         show.calls.add(made);
         trial.calls.add(made);
         return number;
@@ -444,6 +445,7 @@ public final class JetWaltz {
         return load > 0 ? 10 * drive * power / load : 0;
     }
 
+    /** Without a FLOW the VALVE stands at 0, since no NOZZLE is 0; so the HEIGHT is 0 then, too. */
     private static int heightBy(int pressure, int valve) {
         return Math.min(MOST_HEIGHT, pressure * valve / 4);
     }
@@ -569,6 +571,15 @@ public final class JetWaltz {
 
     private static final class Figure {
         final ArrayList<Step> steps = new ArrayList<Step>();
+
+        /** A row of its own, since the FIGURE may get more STEPS later. */
+        ArrayList<Step> stepsNow() {
+            ArrayList<Step> row = new ArrayList<Step>();
+            for (int s = 0; s < steps.size(); s++) {
+                row.add(steps.get(s));
+            }
+            return row;
+        }
     }
 
     private static final class Call {
@@ -576,14 +587,10 @@ public final class JetWaltz {
         final int shift;
         final int calledAt;
 
-        /** The STEPS are taken over one by one, since the FIGURE may get more of them later. */
-        Call(Figure figure, int shift, int now) {
-            this.steps = new ArrayList<Step>();
-            for (int s = 0; s < figure.steps.size(); s++) {
-                this.steps.add(figure.steps.get(s));
-            }
+        Call(ArrayList<Step> steps, int shift, int calledAt) {
+            this.steps = steps;
             this.shift = shift;
-            this.calledAt = now;
+            this.calledAt = calledAt;
         }
 
         int dueOf(Step step) {

@@ -15,6 +15,7 @@ public final class AskedTest {
         promise19Open();
         promise19OpenWithSwimmer();
         promise20Many();
+        promise20ManyInTheAir();
         promise20ManyRefuses();
         promise21MeanHeight();
         CHECK.end();
@@ -242,6 +243,19 @@ public final class AskedTest {
         for (int what = 0; what <= 15; what++) {
             CHECK.due("many(" + what + ")", w.many(what), due[what]);
         }
+    }
+
+    private static void promise20ManyInTheAir() {
+        JetWaltz w = Basins.oneJet(30, 2, 0);
+        w.wind(4, 2);
+        w.setting(0, 3);
+        w.valve(0, 4);
+        w.pass(4);
+        // 4 that will fall into the BASIN, 6 onto the CROWD, 8 beyond.
+        CHECK.due("in the air, wherever it will fall", w.many(6), 4 + 6 + 8);
+        CHECK.due("falls(1), into the BASIN", w.falls(1), 4);
+        CHECK.due("falls(3), onto the CROWD", w.falls(3), 6);
+        CHECK.due("falls(5), beyond", w.falls(5), 8);
     }
 
     private static void promise20ManyRefuses() {
