@@ -390,11 +390,10 @@ final class AskedSentences {
         s.due("ten of 50", w.meanHeight(), 50.0);
         w.setting(0, 0);
         w.pass(9);
-        // PRESSURE 600 / 30 = 20, HEIGHT 5.
         w.valve(0, 0);
         w.setting(0, 1);
         w.pass(1);
-        // PRESSURE 600 / 29 = 20.
+        // PRESSURE 600 / 29 = 20, HEIGHT 5.
         s.due("nine of 5", w.meanHeight(), 45.0 / 10);
         JetWaltz three = Basins.jets(3);
         three.setting(0, 1);

@@ -260,6 +260,18 @@ final class DoneSentences {
             s.due("swims a tick later", w.many(15), is ? 1 : 0);
             before = is;
         }
+        JetWaltz during = Basins.busyWithSwimmer();
+        s.due("meanwhile: pump()", during.pump(30), 2);
+        s.due("meanwhile: jet()", during.jet(2, 0, 1, 0), 3);
+        s.due("meanwhile: figure()", during.figure(), 2);
+        s.due("meanwhile: step()", during.step(2, 0, 1, 0), 1);
+        s.due("meanwhile: wind()", during.wind(1, 0), -2);
+        s.due("meanwhile: lamp()", during.lamp(3, true), false);
+        s.due("meanwhile: fault()", during.fault(3, true, true), false);
+        s.due("meanwhile: fill()", during.fill(5000) > 5000, true);
+        s.due("meanwhile: call()", during.call(2, 0), 3);
+        during.pass(1);
+        s.due("meanwhile: FAULTS", during.many(11), 1);
         JetWaltz told = Basins.jets(1);
         told.valve(0, 3);
         told.setting(0, 4);

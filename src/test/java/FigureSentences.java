@@ -91,6 +91,14 @@ final class FigureSentences {
                 s.due(what + "SETTING 1", w.ofPump(1, 1), value >= 10 ? value - 10 : 5);
             }
         }
+        JetWaltz stuck = Basins.jets(1);
+        stuck.fault(0, true, false);
+        stuck.figure();
+        stuck.step(0, 0, 1, 4);
+        stuck.call(0, 0);
+        stuck.pass(1);
+        s.due("a STUCK VALVE is SET to", stuck.ofJet(0, 4), 4);
+        s.due("a STUCK VALVE stands at", stuck.ofJet(0, 5), 0);
     }
 
     private void settingsOfPumps() {
@@ -295,6 +303,20 @@ final class FigureSentences {
         w.lamp(3, true);
         w.swim(false);
         s.due("nobody does: ON", w.many(14), 8);
+        w.swim(true);
+        w.fault(5, true, false);
+        w.pass(1);
+        s.due("a STUCK one stands", w.ofJet(5, 5), 4);
+        s.due("another goes down", w.ofJet(6, 5), 3);
+        w.swim(true);
+        s.due("a STUCK one stays so", w.ofJet(5, 6), 1);
+        w.pass(1);
+        s.due("a STUCK one stands still", w.ofJet(5, 5), 4);
+        JetWaltz stuck = Basins.jets(1);
+        stuck.valve(0, 3);
+        stuck.fault(0, true, false);
+        stuck.swim(true);
+        s.due("a STUCK one is SET to", stuck.ofJet(0, 4), 0);
         JetWaltz bare = new JetWaltz();
         s.due("without PUMPS and JETS", bare.swim(true), false);
         s.due("swims", bare.many(15), 1);
